@@ -628,13 +628,18 @@ public final class HeldPart {
     /** A contact of the first kind, and what all kinds have. */
     private static class Pin {
         final int direction;
+        final int directionX;
+        final int directionY;
         final int body;
         int x;
         int y;
         int missed = 0;
 
         Pin(int direction, int x, int y, int body) {
+            boolean isKnown = isDirection(direction);
             this.direction = direction;
+            this.directionX = isKnown ? DIRECTION_X[direction] : 0;
+            this.directionY = isKnown ? DIRECTION_Y[direction] : 0;
             this.x = x;
             this.y = y;
             this.body = body;
@@ -669,20 +674,12 @@ public final class HeldPart {
         void fail() {
         }
 
-        final int directionX() {
-            return isDirection(direction) ? DIRECTION_X[direction] : 0;
-        }
-
-        final int directionY() {
-            return isDirection(direction) ? DIRECTION_Y[direction] : 0;
-        }
-
         final int pushX(int push) {
-            return push < 0 ? directionX() : 10 * directionX() - leans(push) * gripped() * directionY();
+            return push < 0 ? directionX : 10 * directionX - leans(push) * gripped() * directionY;
         }
 
         final int pushY(int push) {
-            return push < 0 ? directionY() : 10 * directionY() + leans(push) * gripped() * directionX();
+            return push < 0 ? directionY : 10 * directionY + leans(push) * gripped() * directionX;
         }
 
         /** The third part of a push's wrench. */

@@ -498,6 +498,11 @@ public final class HeldPartPromises {
         due("loads(101)", z.loads(101), 0);
         z.load(0, 1, 0);
         due("pull(): no pull helps", z.pull(), -4);
+        HeldPart bare = new HeldPart();
+        bare.load(0, 0, 0);
+        due("pull() of no contacts, against nothing", bare.pull(), 0);
+        bare.load(1, 0, 0);
+        due("pull() of no contacts", bare.pull(), -4);
         HeldPart gap = new HeldPart();
         gap.contact(24, 0, 0, 0);
         gap.load(9, 0, 0);
@@ -655,6 +660,7 @@ public final class HeldPartPromises {
         row(x, new int[] {1, 2}, new int[] {5, 2});
         HeldPart y = new HeldPart();
         y.step(48, 0);
+        due("setup(0, 0) ahead of any other call", y.setup(0, 0), 4);
         y.step(24, 1);
         row(y, new int[] {4}, new int[] {3});
         y.step(2, 2);
@@ -890,6 +896,14 @@ public final class HeldPartPromises {
         for (int k : none) {
             refused(x, "keep(7, 1, " + k + ")", () -> x.keep(7, 1, k), -1);
         }
+        x.keep(7, 1, 0);
+        throwing("element(7, 0): the row is gone", () -> x.element(7, 0), STATE);
+        due("copy(7, 0, 7, 0, 0): the row is gone", x.copy(7, 0, 7, 0, 0), -12);
+        x.keep(7, 4, 0);
+        due("weight(7): the contact is gone", x.weight(7), -12);
+        x.keep(7, 3, 0);
+        x.make(6, 4, 1);
+        due("copy(6, 0, 7, 0, 0): the bytes are gone", x.copy(6, 0, 7, 0, 0), -12);
         due("keep(7, 0, 99)", x.keep(7, 0, 99), 0);
         due("weight(7)", x.weight(7), -11);
         HeldPart y = new HeldPart();
