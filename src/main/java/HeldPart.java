@@ -87,7 +87,9 @@ public final class HeldPart {
         if (contactCount >= MOST_CONTACTS) {
             return FULL;
         }
-        contacts[contactCount] = made(kind, direction, x, y, grip, body);
+        Pin c = made(kind, direction, x, y, grip, body);
+        c.number = contactCount;
+        contacts[contactCount] = c;
         contactCount++;
         pushesAreOld = true;
         return contactCount - 1;
@@ -514,6 +516,7 @@ public final class HeldPart {
     /** What lies on a shelf must not change when the contact itself does. */
     private static Pin twinOf(Pin c) {
         Pin twin = made(c.kind(), c.direction, c.x, c.y, c.gripped(), c.body);
+        twin.number = c.number;
         twin.missed = c.missed;
         return twin;
     }
@@ -522,9 +525,7 @@ public final class HeldPart {
         try {
             c.fail();
         } catch (IllegalStateException e) {
-            return PAD;
-        } catch (UnsupportedOperationException e) {
-            return BALL;
+            return c.number;
         }
         return NO_FAILURE;
     }
@@ -631,6 +632,7 @@ public final class HeldPart {
         final int directionX;
         final int directionY;
         final int body;
+        int number = 0;
         int x;
         int y;
         int missed = 0;
@@ -723,7 +725,7 @@ public final class HeldPart {
 
         @Override
         void fail() {
-            throw new IllegalStateException("a pad fails");
+            throw new IllegalStateException("its grip fails");
         }
     }
 
@@ -771,11 +773,6 @@ public final class HeldPart {
         @Override
         int weighs() {
             return 2 * (10 + body + grip + 100);
-        }
-
-        @Override
-        void fail() {
-            throw new UnsupportedOperationException("a ball fails");
         }
     }
 

@@ -34,6 +34,26 @@ public final class HeldPartAgainstModel {
         final List<int[]> steps = new ArrayList<>();
         final List<int[]> points = new ArrayList<>();
         int radius = 0;
+        /** Null, {the WEIGHT, what toss answers} of a CONTACT in a Long[], or the ROW itself. */
+        final Object[] shelves = new Object[8];
+
+        static Long[] kept(int[] c, int number) {
+            boolean grips = c[0] == 1 || c[0] == 3;
+            long weight = 10 + c[5] + (grips ? 100 + c[4] : 0) + (c[0] == 2 ? 1000 : 0);
+            return new Long[] {c[0] == 3 ? 2 * weight : weight, grips ? number : -15L};
+        }
+
+        int[] wrenchRow() {
+            int[] row = new int[3 * contacts.size()];
+            for (int i = 0; i < row.length; i++) {
+                row[i] = (int) direction(contacts.get(i / 3))[i % 3];
+            }
+            return row;
+        }
+
+        static int length(Object row) {
+            return row instanceof int[] ints ? ints.length : row instanceof byte[] bytes ? bytes.length : -1;
+        }
 
         static long[] wrench(long p, long q, int[] c) {
             return new long[] {p, q, c[2] * q - c[3] * p};
@@ -574,10 +594,13 @@ public final class HeldPartAgainstModel {
             done = next;
         }
         due(run, "setup(end)", x.setup(row.size(), 0), -3);
-        x.keep(0, 4, 0);
+        due(run, "keep(0, 4, 0)", x.keep(0, 4, 0), 0);
+        byte[] kept = new byte[row.size()];
         for (int i = 0; i < row.size(); i++) {
+            kept[i] = (byte) (int) row.get(i);
             due(run, "element(0, " + i + ")", x.element(0, i), (long) row.get(i));
         }
+        m.shelves[0] = kept;
         int n = 1 + random.nextInt(10);
         int sides = random.nextInt((int) Math.pow(6, n));
         due(run, "told(" + sides + ", " + n + ")", x.told(sides, n), m.told(sides, n));
@@ -610,8 +633,86 @@ public final class HeldPartAgainstModel {
         due(run, "met", x.met(), m.points.isEmpty() ? -3 : bits);
     }
 
+    private void keepCall() {
+        int d = random.nextInt(8);
+        int k = random.nextInt(10);
+        switch (random.nextInt(9)) {
+            case 0:
+                due(run, "keep(" + d + ", 0, 0)", x.keep(d, 0, 0), 0);
+                m.shelves[d] = null;
+                break;
+            case 1:
+                due(run, "keep(" + d + ", 3, 0)", x.keep(d, 3, 0), 0);
+                m.shelves[d] = m.wrenchRow();
+                break;
+            case 2:
+                due(run, "make(" + d + ", 3, " + 2 * k + ")", x.make(d, 3, 2 * k), 0);
+                m.shelves[d] = new int[2 * k];
+                break;
+            case 3:
+                due(run, "make(" + d + ", 4, " + k + ")", x.make(d, 4, k), 0);
+                m.shelves[d] = new byte[k];
+                break;
+            default:
+                boolean isThere = k < m.contacts.size();
+                due(run, "keep(" + d + ", 1, " + k + ")", x.keep(d, 1, k), isThere ? 0 : -1);
+                if (isThere) {
+                    m.shelves[d] = Model.kept(m.contacts.get(k), k);
+                }
+                break;
+        }
+    }
+
+    private void copyCall() {
+        int d = random.nextInt(8);
+        int e = random.nextInt(8);
+        int i = random.nextInt(9) - 1;
+        int j = random.nextInt(9) - 1;
+        int n = random.nextInt(7) - 1;
+        Object from = m.shelves[d];
+        Object to = m.shelves[e];
+        int want = n;
+        if (from == null || to == null) {
+            want = -11;
+        } else if (from instanceof Long[] || from.getClass() != to.getClass()) {
+            want = -12;
+        } else if (n < 0 || i < 0 || j < 0 || i + n > Model.length(from) || j + n > Model.length(to)) {
+            want = -13;
+        } else {
+            System.arraycopy(from, i, to, j, n);
+        }
+        due(run, "copy(" + d + ", " + i + ", " + e + ", " + j + ", " + n + ")", x.copy(d, i, e, j, n), want);
+    }
+
+    private void shelfCalls() {
+        for (int d = 0; d < 8; d++) {
+            Object what = m.shelves[d];
+            Long[] contact = what instanceof Long[] kept ? kept : null;
+            long refused = what == null ? -11 : -12;
+            due(run, "weight(" + d + ")", (long) x.weight(d), contact != null ? contact[0] : (Long) refused);
+            due(run, "toss(" + d + ")", (long) x.toss(d), contact != null ? contact[1] : (Long) refused);
+        }
+        int d = random.nextInt(8);
+        Object what = m.shelves[d];
+        int i = random.nextInt(12) - 1;
+        Object want = "none";
+        if (i >= 0 && i < Model.length(what)) {
+            want = what instanceof int[] ints ? (long) ints[i] : (long) ((byte[]) what)[i];
+        }
+        Object got;
+        try {
+            got = x.element(d, i);
+        } catch (IllegalStateException e) {
+            got = "none";
+        }
+        due(run, "element(" + d + ", " + i + ")", got, want);
+    }
+
     private void call() {
-        switch (random.nextInt(28)) {
+        switch (random.nextInt(32)) {
+            case 28: case 29: keepCall(); break;
+            case 30: copyCall(); break;
+            case 31: shelfCalls(); break;
             case 0: case 1: case 2: case 3: case 24: case 25: contactCall(); break;
             case 26: case 27: loadCall(); break;
             case 4: undoCall(); break;

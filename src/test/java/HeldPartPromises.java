@@ -1039,14 +1039,15 @@ public final class HeldPartPromises {
     private static void toss() {
         HeldPart x = new HeldPart();
         int[] kinds = {3, 2, 1, 0, 1, 3, 0, 2};
-        long[] want = {3, -15, 1, -15, 1, 3, -15, -15};
+        long[] want = {0, -15, 2, -15, 4, 5, -15, -15};
         for (int d = 0; d < 8; d++) {
             due("toss(" + d + ") of nothing", x.toss(d), -11);
             x.contact(10 * kinds[d], 0, 0, 500);
             x.keep(d, 1, d);
             due("toss(" + d + ")", x.toss(d), want[d]);
         }
-        due("toss(0): it is still there", x.toss(0), 3);
+        due("toss(5): it is still there", x.toss(5), 5);
+        due("weight(5): it is still there", x.weight(5), 230);
         x.make(0, 3, 1);
         due("toss(0) of ints", x.toss(0), -12);
         x.make(0, 4, 1);
@@ -1055,6 +1056,71 @@ public final class HeldPartPromises {
         due("toss(-1)", x.toss(-1), -1);
         due("toss(LOW)", x.toss(LOW), -1);
         due("toss(HIGH)", x.toss(HIGH), -1);
+        tossOfEachNumber();
+        tossBehindKeep();
+    }
+
+    private static void tossOfEachNumber() {
+        for (int kind = 1; kind <= 3; kind += 2) {
+            HeldPart x = new HeldPart();
+            for (int k = 0; k < 10; k++) {
+                x.contact(10 * kind + k % 8, k, -k, 100 * (k + 1) + k);
+            }
+            for (int k = 9; k >= 0; k--) {
+                int d = (k + 3) % 8;
+                x.keep(d, 1, k);
+                due("toss of CONTACT " + k + ", KIND " + kind + ", on SHELF " + d, x.toss(d), k);
+            }
+        }
+    }
+
+    /** The CONTACT lies there as it was kept, whatever becomes of the CONTACTS later. */
+    private static void tossBehindKeep() {
+        HeldPart x = new HeldPart();
+        x.contact(0, 5, 5, 0);
+        x.contact(24, 5, 5, 0);
+        x.contact(33, 5, 5, 400);
+        x.contact(16, 5, 5, 400);
+        x.contact(10, 5, 5, 400);
+        x.keep(0, 1, 2);
+        x.keep(1, 1, 3);
+        x.keep(2, 1, 4);
+        x.keep(3, 1, 4);
+        x.move(2, -50, 7);
+        x.miss(3, 9);
+        due("toss(0), moved behind keep", x.toss(0), 2);
+        due("toss(1), with a MISS behind keep", x.toss(1), 3);
+        x.undo();
+        x.undo();
+        x.undo();
+        due("toss(0), gone by undo", x.toss(0), 2);
+        due("toss(1), gone by undo", x.toss(1), 3);
+        due("toss(2), gone by undo", x.toss(2), 4);
+        x.contact(0, 1, 1, 0);
+        due("toss(0), a PIN has its number now", x.toss(0), 2);
+        x.contact(30, 1, 1, 100);
+        x.keep(4, 1, 3);
+        due("toss(4), a BALL that came behind undo", x.toss(4), 3);
+        x.keep(3, 1, 3);
+        due("toss(3), another CONTACT lies there now", x.toss(3), 3);
+        due("toss(2), as it was", x.toss(2), 4);
+        x.undo();
+        x.undo();
+        x.undo();
+        x.undo();
+        due("count(0)", x.count(0), 0);
+        due("toss(0), no CONTACTS at all", x.toss(0), 2);
+        due("toss(3), no CONTACTS at all", x.toss(3), 3);
+        x.contact(11, 1, 1, 100);
+        x.keep(3, 1, 0);
+        due("toss(3), a PAD of number 0", x.toss(3), 0);
+        x.contact(10, 1, 1, 100);
+        x.keep(3, 1, 1);
+        x.move(1, 2, 2);
+        x.keep(5, 1, 1);
+        due("toss(5), moved ahead of keep", x.toss(5), 1);
+        x.keep(3, 0, 0);
+        due("toss(3), nothing lies there", x.toss(3), -11);
     }
 
     public static void main(String[] args) {
