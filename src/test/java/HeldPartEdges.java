@@ -1009,6 +1009,32 @@ public final class HeldPartEdges {
         due(two, "held(9, 8, 0, 8)", x -> x.held(9, 8, 0, 8), 0);
     }
 
+    /** Nine against one that pushes back along their very line, at the corner where they turn the most. */
+    private static void heldAtMost() {
+        says("12: with the largest LOADS, PULLS and places that there can be");
+        int[] tolds = {1, 11, 31};
+        for (int t : tolds) {
+            HeldPart x = new HeldPart();
+            x.contact(t, 100, -100, 2000);
+            for (int i = 0; i < 9; i++) {
+                x.contact(25, 100, -100, 0);
+            }
+            boolean grips = t != 1;
+            due(x, "held(0, 0, 0, 200) by " + t, y -> y.held(0, 0, 0, 200), 1);
+            due(x, "held(0, 0, 1, 200) by " + t, y -> y.held(0, 0, 1, 200), 0);
+            due(x, "held(0, 0, -1, 200) by " + t, y -> y.held(0, 0, -1, 200), 0);
+            due(x, "held(0, 0, 1000, 200) by " + t, y -> y.held(0, 0, 1000, 200), 0);
+            due(x, "held(5, 5, 1000, 200) by " + t, y -> y.held(5, 5, 1000, 200), 1);
+            due(x, "held(5, -5, 0, 200) by " + t, y -> y.held(5, -5, 0, 200), grips ? 1 : 0);
+            due(x, "held(-1000, 1000, 0, 200) by " + t, y -> y.held(-1000, 1000, 0, 200), grips ? 1 : 0);
+            due(x, "held(5, 5, 1000, 0): it can't draw, by " + t, y -> y.held(5, 5, 1000, 0), 0);
+            x.load(5, 5, 1000);
+            due(x, "pull() by " + t, HeldPart::pull, 1);
+            x.load(1000, -1000, 0);
+            due(x, "pull() to grip by " + t, HeldPart::pull, grips ? 56 : -4);
+        }
+    }
+
     private static void load() {
         says("13: LOADS 0 .. 15 as they come; -2: there are 16");
         HeldPart x = new HeldPart();
@@ -1260,6 +1286,13 @@ public final class HeldPartEdges {
         fraction(most, -100, -100, 3, 210, 20100, 1);
         HeldPart last = full();
         fraction(last, 17 * 9 % 60 - 30, 23 * 9 % 50 - 20, 3 * 9 % 8, 976, 45, 1);
+        HeldPart widest = pinned(1, 100, -100, 3, 100, 100, 5, -100, 100);
+        widest.miss(2, 1);
+        fraction(widest, 0, 1, 0, 210, 1, 400);
+        widest.miss(0, 50);
+        widest.miss(1, 49);
+        widest.miss(2, 47);
+        fraction(widest, 0, 1, 0, 210, 19797, 400);
         says("17: (0 by 1)");
         fraction(some(), 5, 5, 0, 210, 0, 1);
         fraction(pinned(2, 0, 0, 2, 7, 0, 0, 0, 0), 100, 100, 3, 210, 0, 1);
@@ -2152,10 +2185,11 @@ public final class HeldPartEdges {
             HeldPartEdges::look, HeldPartEdges::wrench, HeldPartEdges::wrenchOrder, HeldPartEdges::rank,
             HeldPartEdges::hidden, HeldPartEdges::form, HeldPartEdges::without, HeldPartEdges::heldRanges,
             HeldPartEdges::heldEdges, HeldPartEdges::heldByPins, HeldPartEdges::heldByTen,
-            HeldPartEdges::heldByClamps, HeldPartEdges::load, HeldPartEdges::unload,
-            HeldPartEdges::loads, HeldPartEdges::pull, HeldPartEdges::worstThree, HeldPartEdges::worstOfTen, HeldPartEdges::worstFeature,
-            HeldPartEdges::worstFraction, HeldPartEdges::bestRefusals, HeldPartEdges::bestOfLike,
-            HeldPartEdges::step, HeldPartEdges::setups, HeldPartEdges::fewestByTold, HeldPartEdges::setup, HeldPartEdges::told,
+            HeldPartEdges::heldByClamps, HeldPartEdges::heldAtMost, HeldPartEdges::load, HeldPartEdges::unload,
+            HeldPartEdges::loads, HeldPartEdges::pull, HeldPartEdges::worstThree, HeldPartEdges::worstOfTen,
+            HeldPartEdges::worstFeature, HeldPartEdges::worstFraction, HeldPartEdges::bestRefusals,
+            HeldPartEdges::bestOfLike, HeldPartEdges::step, HeldPartEdges::setups, HeldPartEdges::fewestByTold,
+            HeldPartEdges::setup, HeldPartEdges::told,
             HeldPartEdges::point, HeldPartEdges::tool, HeldPartEdges::nearer, HeldPartEdges::meets,
             HeldPartEdges::met, HeldPartEdges::count, HeldPartEdges::keepWhat, HeldPartEdges::keepRows,
             HeldPartEdges::keepAgain, HeldPartEdges::make, HeldPartEdges::element, HeldPartEdges::copyRefusals,
