@@ -1,4 +1,5 @@
 import java.util.ArrayList;
+import java.util.Arrays;
 import java.util.List;
 
 /**
@@ -655,7 +656,8 @@ public final class HeldPartEdges {
     }
 
     private static void wrenchOrder() {
-        says("PAD: (10 p - g q, 10 q + g p) and (10 p + g q, 10 q - g p) .. BALL: both, and its DIRECTION ten times between");
+        says("PAD: (10 p - g q, 10 q + g p) and (10 p + g q, 10 q - g p) .. BALL: both, and its DIRECTION ten times"
+                + " between them");
         int[] directionX = {1, 1, 0, -1, -1, -1, 0, 1};
         int[] directionY = {0, 1, 1, 1, 0, -1, -1, -1};
         int[] grips = {1, 20};
@@ -987,6 +989,11 @@ public final class HeldPartEdges {
         due(x, "held(0, 0, 0, 2) behind both CLAMPS' undo", y -> y.held(0, 0, 0, 2), 1);
         due(x, "undo()", HeldPart::undo, 0);
         due(x, "held(1, -1, -6, 0) behind the PIN's undo", y -> y.held(1, -1, -6, 0), 0);
+        HeldPart falls = pinned(1, 1, 0, 10, 0, 5);
+        due(falls, "held(-10, -10, -10, 0) of rank 3", y -> y.held(-10, -10, -10, 0), 1);
+        due(falls, "undo()", HeldPart::undo, 1);
+        due(falls, "held(-10, -10, -10, 0) behind the fall to rank 1", y -> y.held(-10, -10, -10, 0), 1);
+        due(falls, "held(10, 10, 10, 0) behind the fall to rank 1", y -> y.held(10, 10, 10, 0), 0);
     }
 
     private static void heldByClamps() {
@@ -1172,7 +1179,8 @@ public final class HeldPartEdges {
         idle(HeldPart::new, "worst(0, 0, 0, 210, ..) of none", x -> x.worst(0, 0, 0, 210, true), ARGUMENT);
         int[] beyond = {5 + 10 + 200, 50 + 200, 500 + 10, 9 + 10 + 200, 90 + 200, 900 + 10};
         for (int t : beyond) {
-            idle(HeldPartEdges::some, "worst(0, 0, 0, " + t + ", ..) of five", x -> x.worst(0, 0, 0, t, true), ARGUMENT);
+            idle(HeldPartEdges::some, "worst(0, 0, 0, " + t + ", ..) of five", x -> x.worst(0, 0, 0, t, true),
+                    ARGUMENT);
         }
         says("17: IllegalArgumentException: two alike");
         int[] alike = {0, 11, 111, 211, 121, 112, 110, 101, 4 + 40 + 400, 4 + 40, 200 + 20};
@@ -1331,7 +1339,8 @@ public final class HeldPartEdges {
 
     private static void bestOfLike() {
         says("18: those with the least WORST (a below b below c), the last three of ten too");
-        HeldPart ten = pinned(2, 0, 0, 2, 0, 0, 2, 0, 0, 2, 0, 0, 2, 0, 0, 2, 0, 0, 2, 0, 0, 2, 0, 0, 2, 10, 0, 0, 0, 5);
+        HeldPart ten = pinned(2, 0, 0, 2, 0, 0, 2, 0, 0, 2, 0, 0, 2, 0, 0, 2, 0, 0, 2, 0, 0, 2, 0, 0,
+                2, 10, 0, 0, 0, 5);
         due(ten, "best(0, 0, 2) without MISSES", x -> x.best(0, 0, 2), 980);
         for (int contact = 0; contact < 7; contact++) {
             ten.miss(contact, 50);
@@ -1489,10 +1498,10 @@ public final class HeldPartEdges {
                 int told = backwards(i, n);
                 if (asked.told(told, n) == n) {
                     HeldPart x = steps(row);
-                    due(x, "setups() of " + java.util.Arrays.toString(row), HeldPart::setups, n);
+                    due(x, "setups() of " + Arrays.toString(row), HeldPart::setups, n);
                     for (int k = 0, rest = told; k < n; k++, rest /= 6) {
                         int at = k;
-                        due(x, "setup(" + at + ", 0) of " + java.util.Arrays.toString(row), y -> y.setup(at, 0), rest % 6);
+                        due(x, "setup(" + at + ", 0) of " + Arrays.toString(row), y -> y.setup(at, 0), rest % 6);
                     }
                     return;
                 }
@@ -1500,7 +1509,7 @@ public final class HeldPartEdges {
         }
         HeldPart x = steps(row);
         if (x.setups() <= 4) {
-            tell("setups() of " + java.util.Arrays.toString(row) + " answered " + x.setups() + ", due are more than 4");
+            tell("setups() of " + Arrays.toString(row) + " answered " + x.setups() + ", due are more than 4");
         }
     }
 
@@ -2004,7 +2013,8 @@ public final class HeldPartEdges {
             idle(HeldPart::new, "copy(" + d + ", 0, " + d + ", 0, 0)", x -> x.copy(d, 0, d, 0, 0), -11);
         }
         says("31: -12: one is no ROW, or they are not of one kind, ahead of -13");
-        int[][] pairs = {{0, 0}, {0, 1}, {0, 2}, {2, 0}, {0, 3}, {3, 0}, {2, 3}, {3, 2}, {2, 5}, {5, 2}, {4, 5}, {5, 4}};
+        int[][] pairs = {{0, 0}, {0, 1}, {0, 2}, {2, 0}, {0, 3}, {3, 0}, {2, 3}, {3, 2}, {2, 5}, {5, 2}, {4, 5},
+            {5, 4}};
         for (int[] p : pairs) {
             String text = "copy(" + p[0] + ", .., " + p[1];
             idle(HeldPartEdges::some, text + ") of 1", x -> x.copy(p[0], 0, p[1], 0, 1), -12);
