@@ -16,15 +16,8 @@ import java.util.regex.Pattern;
 
 /** Rules of LANGUAGE.md that can be seen by reflection or in the text of the class; run from the project's root. */
 public final class HeldPartLanguage {
-    private static final String[] FACE = {
-        "int contact(int, int, int, int)", "int undo()", "int move(int, int, int)", "int miss(int, int)",
-        "int look(int, int)", "long wrench(int, int, int) A", "int rank()", "long hidden(int) A S", "int form()",
-        "int without(int)", "int held(int, int, int, int)", "int load(int, int, int)", "int unload()",
-        "int loads(int)", "int pull()", "long worst(int, int, int, int, boolean) A S", "int best(int, int, int)",
-        "int step(int, int)", "int setups()", "int setup(int, int)", "int told(int, int)", "int point(int, int)",
-        "int tool(int)", "int meets(int)", "int met()", "int count(int)", "int keep(int, int, int)",
-        "int make(int, int, int)", "long element(int, int) A S", "int copy(int, int, int, int, int)",
-        "int weight(int)", "int toss(int)"};
+    private static final Pattern DECLARED =
+            Pattern.compile("    public (int|long) (\\w+)\\(([^)]*)\\)(?: throws ([\\w, ]+))?;");
     private static final String[] FORBIDDEN = {"->", "::", "\\w+Exact\\b", "\\bfinally\\b", "\\bsynchronized\\b",
         "\\bassert\\b", "\\bimport\\b", "\\bpackage\\b", "\\bprotected\\b", "\\bgetMessage\\b", "\\bdouble\\b",
         "\\bfloat\\b", "\\bvar\\b", "\\bwhile\\s*\\(\\s*true", "catch\\s*\\(\\s*(RuntimeException|Exception|Throwable"
@@ -55,7 +48,21 @@ public final class HeldPartLanguage {
         return s.toString();
     }
 
-    private static void lookAtFace() {
+    /** The calls of the face as the document writes them, each told as told(Method) does. */
+    private static List<String> faceOf(String document) {
+        List<String> face = new ArrayList<>();
+        Matcher m = DECLARED.matcher(document);
+        while (m.find()) {
+            String types = m.group(3).replaceAll("(int|long|boolean) \\w+", "$1");
+            String thrown = m.group(4) == null ? "" : " " + m.group(4).replace(",", "")
+                    .replace("IllegalArgumentException", "A").replace("IllegalStateException", "S");
+            face.add(m.group(1) + " " + m.group(2) + "(" + types + ")" + thrown);
+        }
+        require(face.size() == 32, "the document's face has 32 calls, found were " + face.size());
+        return face;
+    }
+
+    private static void lookAtFace(List<String> want) {
         List<String> face = new ArrayList<>();
         for (Method m : HeldPart.class.getDeclaredMethods()) {
             if (Modifier.isPublic(m.getModifiers())) {
@@ -65,7 +72,6 @@ public final class HeldPartLanguage {
                 require(Modifier.isPrivate(m.getModifiers()), "rule 1: private or of the face: " + m);
             }
         }
-        List<String> want = new ArrayList<>(Arrays.asList(FACE));
         Collections.sort(face);
         Collections.sort(want);
         require(face.equals(want), "rule 1: the face is " + face);
@@ -79,10 +85,10 @@ public final class HeldPartLanguage {
         }
     }
 
-    private static void lookAtClasses() {
+    private static void lookAtClasses(List<String> face) {
         List<Class<?>> classes = new ArrayList<>(Arrays.asList(HeldPart.class.getDeclaredClasses()));
         Set<String> names = new TreeSet<>();
-        for (String f : FACE) {
+        for (String f : face) {
             names.add(f.substring(f.indexOf(' ') + 1, f.indexOf('(')));
         }
         require(classes.size() + 1 <= 12, "rule 11: some twelve classes");
@@ -143,8 +149,9 @@ public final class HeldPartLanguage {
     }
 
     public static void main(String[] args) throws IOException {
-        lookAtFace();
-        lookAtClasses();
+        List<String> face = faceOf(Files.readString(Path.of("../shared/DOC.md")));
+        lookAtFace(face);
+        lookAtClasses(face);
         lookAtText(Files.readString(Path.of("src/main/java/HeldPart.java")));
         System.out.println(wrong == 0 ? "the rules that can be seen are kept" : wrong + " rules are broken");
         if (wrong != 0) {
